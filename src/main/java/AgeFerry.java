@@ -2,6 +2,9 @@
 public final class AgeFerry {
     public static final int NONE = -1, BAD = -2, NOT = -3, FULL = -4;
 
+    private static final int LEAST_INT = -2147483648;
+    private static final int GREATEST_INT = 2147483647;
+    private static final long LEAST_LONG = -9223372036854775808L;
     private static final int NUMBERS = 10;
     private static final int MOST_WEIGHT = 99;
     private static final int LONGEST_LIE = 30;
@@ -330,12 +333,12 @@ public final class AgeFerry {
 
     public int get(int s, int form, int i) {
         if (!isSheet(s) || !isForm(form)) {
-            return Integer.MIN_VALUE;
+            return LEAST_INT;
         }
         int finding = findingAt(sheets[s], form, i);
         if (finding != 0) {
             latestFinding = finding;
-            return Integer.MIN_VALUE;
+            return LEAST_INT;
         }
         return sheets[s].item(i);
     }
@@ -370,11 +373,8 @@ public final class AgeFerry {
         if (days.leastOf(people.everyone()) == NONE) {
             return NOT;
         }
-        int many = Math.min(sheets[s].length, people.number);
-        for (int person = 0; person < many; person++) {
-            sheets[s].store(person, days.boatNumberOf(1 << person));
-        }
-        return many;
+        writeBoats(sheets[s]);
+        return Math.min(sheets[s].length, people.number);
     }
 
     public int count(int what) {
@@ -472,7 +472,7 @@ public final class AgeFerry {
     }
 
     private static long longRefusal(int refusal) {
-        return Long.MIN_VALUE - refusal;
+        return LEAST_LONG - refusal;
     }
 
     // ---- parts of the calls above
@@ -527,6 +527,19 @@ public final class AgeFerry {
 
     private static int lotOf(int state, int many) {
         return many > 0 ? (state >>> 16) % many : 0;
+    }
+
+    private void writeBoats(Sheet sheet) {
+        int left = people.everyone();
+        for (int number = 0; number < NUMBERS && left != 0; number++) {
+            int boat = days.boatWith(Days.lowestBit(left));
+            for (int person = 0; person < people.number; person++) {
+                if ((boat & (1 << person)) != 0) {
+                    sheet.store(person, number);
+                }
+            }
+            left &= ~boat;
+        }
     }
 
     /** The place that a LOT draws out of those left. */
@@ -709,6 +722,10 @@ public final class AgeFerry {
             return was;
         }
 
+        int mustOf(int i) {
+            return isNumber(i) ? must[i] : 0;
+        }
+
         int pairsOf(int[] ties) {
             int ends = 0;
             for (int i = 0; i < NUMBERS; i++) {
@@ -726,7 +743,7 @@ public final class AgeFerry {
     /** What boats and DAYS cost. The rows are told by sets of PEOPLE, and made anew when one asks after a change. */
     private static final class Days {
         private static final int SETS = 1 << NUMBERS;
-        private static final int NEVER = Integer.MAX_VALUE;
+        private static final int NEVER = GREATEST_INT;
         // A DAY is an int: its cost (below 2^14), how many boats (below 2^4), its first boat (below 2^10),
         // from the high bits down, so that the better one of two DAYS is the lesser int.
         private static final int BOATS_SHIFT = 10;
@@ -758,13 +775,12 @@ public final class AgeFerry {
             outdated = false;
             int all = people.everyone();
             for (int boat = 1; boat <= all && boat < SETS; boat++) {
-                int least = Integer.lowestOneBit(boat);
-                needs[boat] = needs[boat ^ least] | rules.must[Integer.numberOfTrailingZeros(boat)];
+                int least = lowestBit(boat);
+                needs[boat] = needs[boat ^ least] | rules.mustOf(Integer.bitCount(least - 1));
                 prices[boat] = priceOf(boat);
             }
             for (int set = 1; set <= all && set < SETS; set++) {
-                planBest(set);
-                planMost(set);
+                plan(set);
             }
         }
 
@@ -772,10 +788,10 @@ public final class AgeFerry {
             if (Integer.bitCount(boat) < 2) {
                 return boat == 0 ? 0 : rules.values[Rules.ALONE];
             }
-            int eldest = Integer.MIN_VALUE;
-            int youngest = Integer.MAX_VALUE;
-            int heaviest = Integer.MIN_VALUE;
-            int lightest = Integer.MAX_VALUE;
+            int eldest = LEAST_INT;
+            int youngest = GREATEST_INT;
+            int heaviest = LEAST_INT;
+            int lightest = GREATEST_INT;
             for (int i = 0; i < NUMBERS; i++) {
                 if ((boat & (1 << i)) != 0) {
                     eldest = Math.max(eldest, people.told[i]);
@@ -832,18 +848,6 @@ public final class AgeFerry {
                 int boat = firstBoatOf(left);
                 if ((boat & who) != 0) {
                     return boat;
-                }
-                left &= ~boat;
-            }
-            return NONE;
-        }
-
-        int boatNumberOf(int who) {
-            int left = people.everyone();
-            for (int number = 0; number < NUMBERS; number++) {
-                int boat = firstBoatOf(left);
-                if ((boat & who) != 0) {
-                    return number;
                 }
                 left &= ~boat;
             }
@@ -907,7 +911,7 @@ public final class AgeFerry {
             // Whoever is least goes first: so the best DAY of all asks for no other set with 0 in it.
             for (int set = who; set <= all && set < SETS; set++) {
                 if ((set & who) != 0 && (set == all || (set & 1) == 0)) {
-                    planBest(set);
+                    plan(set);
                 }
             }
         }
@@ -925,44 +929,34 @@ public final class AgeFerry {
             return costOf(boat);
         }
 
-        private void planBest(int set) {
+        /** The best DAY of a set, and the MOST, out of those of the sets that a first boat leaves. */
+        private void plan(int set) {
             if (set <= 0 || set >= SETS) {
                 return;
             }
-            int least = Integer.lowestOneBit(set);
+            int least = lowestBit(set);
             int others = set ^ least;
             int parts = 1 << Integer.bitCount(others);
             int found = NEVER;
+            int dearest = NONE;
             int part = 0;
             for (int k = 0; k < parts; k++) {
                 int boat = least | part;
-                if (mayGo(boat, set) && best[set ^ boat] != NEVER) {
-                    int after = best[set ^ boat] >> BOATS_SHIFT;
+                int left = set ^ boat;
+                if (mayGo(boat, set) && best[left] != NEVER) {
+                    int after = best[left] >> BOATS_SHIFT;
                     int cost = prices[boat] << (COST_SHIFT - BOATS_SHIFT);
                     found = Math.min(found, ((after + cost + 1) << BOATS_SHIFT) | boat);
+                    dearest = Math.max(dearest, prices[boat] + most[left]);
                 }
                 part = nextPart(part, others);
             }
             best[set] = found;
+            most[set] = dearest;
         }
 
-        private void planMost(int set) {
-            if (set <= 0 || set >= SETS) {
-                return;
-            }
-            int least = Integer.lowestOneBit(set);
-            int others = set ^ least;
-            int parts = 1 << Integer.bitCount(others);
-            int found = NONE;
-            int part = 0;
-            for (int k = 0; k < parts; k++) {
-                int boat = least | part;
-                if (mayGo(boat, set) && most[set ^ boat] != NONE) {
-                    found = Math.max(found, prices[boat] + most[set ^ boat]);
-                }
-                part = nextPart(part, others);
-            }
-            most[set] = found;
+        static int lowestBit(int set) {
+            return set & -set;
         }
 
         /** The parts of a set, from 0 up, one behind the other. */
@@ -1000,9 +994,9 @@ public final class AgeFerry {
                 return NONE;
             }
             all = everyone;
-            least = Integer.MAX_VALUE;
+            least = GREATEST_INT;
             goThere(this, everyone, 0, 0);
-            return least == Integer.MAX_VALUE ? NONE : least;
+            return least == GREATEST_INT ? NONE : least;
         }
 
         private static void goThere(Trip trip, int left, int paid, int depth) {
@@ -1013,7 +1007,7 @@ public final class AgeFerry {
                 comeBack(trip, trip.all, paid, depth + 1);
                 return;
             }
-            int first = Integer.lowestOneBit(left);
+            int first = Days.lowestBit(left);
             int others = left ^ first;
             int parts = 1 << Integer.bitCount(others);
             int part = 0;
@@ -1036,7 +1030,7 @@ public final class AgeFerry {
                 trip.least = Math.min(trip.least, paid);
                 return;
             }
-            int first = Integer.lowestOneBit(left);
+            int first = Days.lowestBit(left);
             int others = left ^ first;
             int parts = 1 << Integer.bitCount(others);
             int part = 0;
