@@ -15,6 +15,14 @@ final class Check {
         }
     }
 
+    static void same(String place, String got, String want) {
+        asked++;
+        if (!got.equals(want)) {
+            wrong++;
+            System.out.println(place + got + ", due is: " + want);
+        }
+    }
+
     /** As the document tells a refusal where the answer is a long. */
     static long longRefusal(int x) {
         return LEAST_LONG + x;
@@ -51,6 +59,29 @@ final class Check {
         for (int i = 0; i < items.length; i++) {
             due(call + ", item " + i, ferry.get(s, form, i), items[i]);
         }
+    }
+
+    /** The digest, by asking for each thing apart. */
+    static long digestOf(AgeFerry x) {
+        long h = 17;
+        for (int what = 0; what < 8; what++) {
+            h = 31 * h + x.count(what);
+        }
+        h = 31 * h + x.fault();
+        int number = x.count(0);
+        for (int p = 0; p < number; p++) {
+            long[] told = {x.person(p, 0), x.person(p, 1), x.with(p), x.pays(p, 0), x.pays(p, 1), x.share(p, 0),
+                x.share(p, 1), x.lies(p, 3), x.ages(p, 0), x.ages(p, 1), x.ages(p, 2)};
+            for (long one : told) {
+                h = 31 * h + one;
+            }
+        }
+        int all = (1 << number) - 1;
+        long[] told = {x.day(all, 0), x.day(all, 1), x.day(all, 2), x.odd(), x.back(), x.lot(7)};
+        for (long one : told) {
+            h = 31 * h + one;
+        }
+        return h;
     }
 
     static void end(String test) {

@@ -170,45 +170,23 @@ public final class SheetsTest {
         Check.due("count(3) with a FAULT", x.count(3), 0);
     }
 
-    private static long digestOf(AgeFerry x) {
-        long h = 17;
-        for (int what = 0; what < 8; what++) {
-            h = 31 * h + x.count(what);
-        }
-        h = 31 * h + x.fault();
-        int number = x.count(0);
-        for (int p = 0; p < number; p++) {
-            long[] told = {x.person(p, 0), x.person(p, 1), x.with(p), x.pays(p, 0), x.pays(p, 1), x.share(p, 0),
-                x.share(p, 1), x.lies(p, 3), x.ages(p, 0), x.ages(p, 1), x.ages(p, 2)};
-            for (long one : told) {
-                h = 31 * h + one;
-            }
-        }
-        int all = (1 << number) - 1;
-        long[] told = {x.day(all, 0), x.day(all, 1), x.day(all, 2), x.odd(), x.back(), x.lot(7)};
-        for (long one : told) {
-            h = 31 * h + one;
-        }
-        return h;
-    }
-
     private static void promise33Digest() {
-        Check.due("digest() of a new one", new AgeFerry().digest(), digestOf(new AgeFerry()));
+        Check.due("digest() of a new one", new AgeFerry().digest(), Check.digestOf(new AgeFerry()));
         AgeFerry x = Check.ferry("10;20;31;7;8;90", 3, 17);
         x.lie(4, 20);
         x.seen(1, 2, 11);
-        Check.due("digest()", x.digest(), digestOf(x));
+        Check.due("digest()", x.digest(), Check.digestOf(x));
         long before = x.digest();
         x.sheet(0, 0, 3);
         x.lose(1);
         Check.due("digest() by other SHEETS and FINDINGS", x.digest(), before);
         Check.type(x, ";44;12;120");
-        Check.due("digest() with FULL", x.digest(), digestOf(x));
+        Check.due("digest() with FULL", x.digest(), Check.digestOf(x));
         x.pair(0, 1, 3, 1);
         x.pair(1, 3, 1, 1);
-        Check.due("digest() with NONE", x.digest(), digestOf(x));
+        Check.due("digest() with NONE", x.digest(), Check.digestOf(x));
         x.type('x');
-        Check.due("digest() with a FAULT", x.digest(), digestOf(x));
+        Check.due("digest() with a FAULT", x.digest(), Check.digestOf(x));
     }
 
     private static void findingsChangeNothingElse() {
