@@ -59,6 +59,7 @@ public final class BackEdgesTest {
         Check.due("back() of two, apart by 3", Check.ferry("5;8", 2, 10).back(), 23);
         Check.due("back() of two, apart by 20", Check.ferry("5;25", 2, 10).back(), 40);
         Check.due("back() of three", like(3, 4, 10).back(), 20);
+        Check.due("back() of three for 1", like(3, 4, 1).back(), 2);
         Check.due("back() of four", like(4, 4, 10).back(), 0);
         // Three and two there: no three can go back in one boat, so one goes alone.
         Check.due("back() of five", like(5, 3, 10).back(), 10);
